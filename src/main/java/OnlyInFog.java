@@ -55,6 +55,7 @@ public final class OnlyInFog {
     private static final int BELOW = -4;
     private static final int ROOM = -6;
     private static final int REFUSALS = 6;
+    private static final int WITHOUT_SIGN = 0x7fffffff;
     /** Far more than two longs need until their common divisor is found. */
     private static final int MOST_DIVISIONS = 200;
     private static final long LONG_REFUSAL = 4000000000000000000L;
@@ -544,7 +545,7 @@ public final class OnlyInFog {
             mind.goOn(1);
             int taken = nobodysNow & ~mind.world.nobodysThings();
             if (taken != 0) {
-                return leastBit(taken);
+                return leastThing(taken);
             }
         }
         return NONE_TOLD;
@@ -964,7 +965,7 @@ public final class OnlyInFog {
             World world = mind.world;
             for (int thing = 0; thing < world.things; thing++) {
                 seed = seed * 1103515245 + 12345;
-                world.lying[thing] = ((seed & Integer.MAX_VALUE) >> 16) % CELLS;
+                world.lying[thing] = ((seed & WITHOUT_SIGN) >> 16) % CELLS;
                 world.owner[thing] = NONE;
             }
             mind.goOn(10);
@@ -1020,8 +1021,13 @@ public final class OnlyInFog {
         return numberOrNone == NONE ? NONE_TOLD : numberOrNone;
     }
 
-    private static int leastBit(int bits) {
-        return Integer.numberOfTrailingZeros(bits);
+    private static int leastThing(int bits) {
+        for (int number = 0; number < MOST_THINGS; number++) {
+            if ((bits & 1 << number) != 0) {
+                return number;
+            }
+        }
+        return NONE_TOLD;
     }
 
     private static long power(long base, int exponent) {
@@ -1385,20 +1391,29 @@ public final class OnlyInFog {
         private int airOfFront(int front, int ahead, int cell, int hour) {
             int thickness = a[front];
             int column = cell % COLUMNS;
+            int own = 0;
             switch (sort[front]) {
                 case BANK:
-                    return column <= hour % (b[front] + 2) ? Math.max(ahead, thickness) : ahead;
+                    int tide = b[front] + 2;
+                    own = tide > 0 && column <= hour % tide ? thickness : 0;
+                    break;
                 case RIVER:
-                    return cell / COLUMNS == b[front] % ROWS ? Math.max(ahead, thickness) : ahead;
+                    own = cell / COLUMNS == b[front] % ROWS ? thickness : 0;
+                    break;
                 case DEW:
-                    return hour % (b[front] + 1) == 0 ? Math.max(ahead, thickness) : ahead;
+                    int pause = b[front] + 1;
+                    own = pause > 0 && hour % pause == 0 ? thickness : 0;
+                    break;
                 case HAAR:
-                    return Math.max(ahead, thickness - Math.abs(column - hour % COLUMNS));
+                    int off = column - hour % COLUMNS;
+                    own = thickness - (off < 0 ? -off : off);
+                    break;
                 case LIFT:
-                    return Math.max(ahead - thickness, 0);
+                    return ahead > thickness ? ahead - thickness : 0;
                 default:
-                    return ahead;
+                    break;
             }
+            return own > ahead ? own : ahead;
         }
     }
 
@@ -1426,7 +1441,7 @@ public final class OnlyInFog {
         }
 
         int airOn(int cell) {
-            return sunny || !isCell(cell) ? 0 : sky.air[airStart + cell];
+            return sunny || cell < 0 || cell >= CELLS ? 0 : sky.air[airStart + cell];
         }
 
         int fogOn(int cell) {
@@ -1460,7 +1475,7 @@ public final class OnlyInFog {
                 look();
                 dropInTheClear();
                 for (int person = 0; person < world.people; person++) {
-                    walk(person);
+                    walk(person, goal(person));
                     if (isInFog(world.place[person])) {
                         grab(person);
                     }
@@ -1476,8 +1491,7 @@ public final class OnlyInFog {
             }
         }
 
-        private void walk(int person) {
-            int goal = goal(person);
+        private void walk(int person, int goal) {
             int pace = People.pace(world.kind[person], world.figure[person]);
             int at = world.place[person];
             for (int i = 0; i < pace && at != goal; i++) {

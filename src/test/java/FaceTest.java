@@ -32,7 +32,8 @@ public final class FaceTest {
         {"->", "2: a lambda or arrow"}, {"::", "2: a method reference"}, {"Exact\\b", "4: an Exact function"},
         {"\\bthrow\\b|\\bthrows\\b|\\btry\\b|\\bcatch\\b|\\bfinally\\b", "6: no call of this face throws"},
         {"\\bassert\\b|\\bsynchronized\\b", "6"}, {"\\bpackage\\b|\\bimport\\b", "4: nothing is imported"},
-        {"\\bSystem\\.(?!arraycopy)", "4"}, {"\\bMath\\.(?!max|min|abs)", "4"}, {"static\\s*\\{", "5"},
+        {"\\bSystem\\.(?!arraycopy)", "4"}, {"\\bMath\\.(?!max|min|abs)", "4"}, {"\\bInteger\\.(?!bitCount)", "4"},
+        {"static\\s*\\{", "5"},
         {"\\bwhile\\s*\\(\\s*true|for\\s*\\(\\s*;\\s*;", "9: no end to be seen"}, {"\\bvar\\b", "3"},
         {"\\bprotected\\b", "1"}, {"\\benum\\b|\\brecord\\b", "not used here"},
     };

@@ -68,6 +68,7 @@ public final class PromisesTest {
         kindsAndRows();
         lotsOfDays();
         images();
+        airBehindImages();
         counts();
         System.out.println(wrong == 0 ? "all promises hold" : wrong + " answers are not as due");
         if (wrong != 0) {
@@ -1159,15 +1160,23 @@ public final class PromisesTest {
         none.lies(7, 1);
         due(30, "one of them always has more otherwise", none.two(0, 1, 1), -9);
         due(30, "one of them always has more otherwise", none.two(1, 0, 1), -9);
-        // He has 6 here, and the thief 9, or 2 at home, and the thief 0: 6 less 4 against 2 less 0.
-        OnlyInFog half = foggy();
-        half.comes(MAN, 0, 12);
-        half.comes(WIDOW, 0, 23);
-        half.lies(9, 23);
-        half.lies(1, 12);
-        half.stands(0, 14);
-        half.lies(1, 13);
-        due(30, "less half of the other's", half.two(0, 1, 1), 0);
+        // By a third of the other's he would go HOME with 3, too: 3 less 1 against 5 less 2.
+        halfOfTheOthers(3, 0, 0);
+        halfOfTheOthers(2, 10, 1);
+        halfOfTheOthers(4, 0, 0);
+    }
+
+    /** The first has `worth` here and the other 5, or 5 at HOME and the other 8: 2 or 4 are half of these. */
+    private static void halfOfTheOthers(int worth, int due, int dueTurned) {
+        OnlyInFog x = foggy();
+        x.comes(WIDOW, 0, 0);
+        x.comes(WIDOW, 0, 0);
+        x.stands(0, 1);
+        x.lies(5, 0);
+        x.lies(worth, 1);
+        x.lies(8, 0);
+        due(30, "two(0, 1, 1), less half, WORTH " + worth, x.two(0, 1, 1), due);
+        due(30, "two(1, 0, 1), less half, WORTH " + worth, x.two(1, 0, 1), dueTurned);
     }
 
     // ---- 31 ----
@@ -1285,6 +1294,14 @@ public final class PromisesTest {
         due(34, "way(0, -1)", x.way(0, -1), -1);
         due(32, "islands(-3)", x.islands(-3), -1);
         due(32, "islands(24)", x.islands(24), -1);
+        for (int cell : new int[] {0, 5, 18, 23}) {
+            OnlyInFog lone = new OnlyInFog();
+            lone.comes(WIDOW, 0, cell);
+            due(32, "islands(-1), a lone CELL " + cell, lone.islands(-1), 1);
+            due(32, "islands(-2), a lone CELL " + cell, lone.islands(-2), 1);
+            due(32, "islands(" + cell + ")", lone.islands(cell), 1 << cell);
+            due(34, "way() on a lone CELL " + cell, lone.way(cell, cell), 0);
+        }
         // Columns 0 and 5 in fog: no way round the edge.
         OnlyInFog y = new OnlyInFog();
         y.blows(BANK, 9, 0);
@@ -1533,6 +1550,20 @@ public final class PromisesTest {
         due(43, "restore() of the new one", x.restore(), 10);
         x.thick(9);
         due(43, "the image stays as it was", x.restore() + x.count(4), 14);
+    }
+
+    /** FRONTS that differ from those ahead of restore() by one number alone. */
+    private static void airBehindImages() {
+        OnlyInFog x = new OnlyInFog();
+        x.image();
+        int[][] fronts = {{RIVER, 9, 0}, {RIVER, 2, 0}, {RIVER, 2, 1}, {DEW, 2, 1}, {DEW, 4, 1}, {DEW, 4, 6}};
+        int[] first = {9, 2, 0, 2, 4, 4};
+        for (int i = 0; i < fronts.length; i++) {
+            x.blows(fronts[i][0], fronts[i][1], fronts[i][2]);
+            due(7, "cell(0, 0) by FRONT " + i, x.cell(0, 0), first[i]);
+            due(43, "restore() ahead of FRONT " + i, x.restore(), 0);
+        }
+        due(43, "cell(0, 0) without a FRONT", x.cell(0, 0), 0);
     }
 
     // ---- 44 ----
