@@ -1089,6 +1089,7 @@ public final class BoundaryTest {
         edge("41", "by numbers", FOGGY + "comes(0,0,22) lies(7,0) lies(5,0) lots(1,1,1)=5");
         // z 0 draws 0, 12, 4, 13, 18, 7, 13, 13.
         edge("41", "8 THINGS", FOGGY + "comes(0,0,13) 7*lies(9,0) lies(5,0) lots(1,0,0)=3 lots(1,0,1)=23");
+        edge("41", "a DRAW below 24: 23", FOGGY + "comes(0,0,23) lies(7,0) lots(11,1,0)=0 lots(12,1,0)=1");
         edge("41", "20 days: the last draw", FOGGY + "comes(0,0,15) lies(7,0) lots(17,1,0)=0 lots(18,1,0)=1"
                 + " lots(20,1,0)=1");
         edge("41", "20 days, together", FOGGY + "comes(0,0,6) lies(7,0) lots(19,1,0)=1 lots(20,1,0)=2 lots(20,1,1)=14");
